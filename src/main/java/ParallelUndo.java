@@ -153,10 +153,11 @@ public final class ParallelUndo {
     private static final class Block {
         int calls;
         private final int[] acts = new int[CALLS];
-        private final int[] kind = new int[CALLS * ACTS];
-        private final int[] first = new int[CALLS * ACTS];
-        private final int[] second = new int[CALLS * ACTS];
-        private final long[] value = new long[CALLS * ACTS];
+        /** By call and ACT. */
+        final int[] kind = new int[CALLS * ACTS];
+        final int[] first = new int[CALLS * ACTS];
+        final int[] second = new int[CALLS * ACTS];
+        final long[] value = new long[CALLS * ACTS];
 
         int addCall() {
             if (calls >= CALLS) {
@@ -205,10 +206,6 @@ public final class ParallelUndo {
 
         void open(long[] leaves) {
             System.arraycopy(leaves, 0, before, 0, LEAVES);
-            empty();
-        }
-
-        void empty() {
             Arrays.fill(state, ABSENT);
         }
 
@@ -294,15 +291,10 @@ public final class ParallelUndo {
         void open() {
             began = 0;
             doneInAll = 0;
-            wipe();
         }
 
         void begin() {
             began++;
-            wipe();
-        }
-
-        private void wipe() {
             next = 0;
             done = 0;
             failed = false;
@@ -367,20 +359,20 @@ public final class ParallelUndo {
                 if (table.isPerhaps(k, writer)) {
                     return writer;
                 }
-                keep(k, writer, table);
+                keep(k, writer, table.numberOf(k, writer), table.valueOf(k, writer));
             }
             register[r] = keptValue[k];
             return NONE;
         }
 
-        private void keep(int k, int writer, Table table) {
+        private void keep(int k, int writer, int runNumber, long v) {
             if (kept >= ACTS) {
                 return;
             }
             keptLeaf[kept] = k;
             keptWriter[kept] = writer;
-            keptNumber[kept] = table.numberOf(k, writer);
-            keptValue[k] = table.valueOf(k, writer);
+            keptNumber[kept] = runNumber;
+            keptValue[k] = v;
             keptMask |= 1 << k;
             kept++;
         }
@@ -471,9 +463,8 @@ public final class ParallelUndo {
             }
         }
 
-        /** IN ORDER: with an empty table and each run whole, no entry is ever PERHAPS. */
+        /** IN ORDER: a call sees the entries below it alone, and those are all of this row of runs by then. */
         void runOneByOne(Block block) {
-            table.empty();
             for (int c = 0; c < calls; c++) {
                 Attempt a = attempts[c];
                 a.begin();
@@ -776,23 +767,20 @@ public final class ParallelUndo {
             int changed = bench.attempts[c].firstChanged(bench.table);
             if (changed != NONE) {
                 conflicts.note(c, bench.table.writerBelow(changed, c));
-                undo(w, c);
+                undo(c);
+                if (!fell && runRow > c) {
+                    giveRun(w, c);
+                }
             }
         }
 
-        private void undo(int w, int c) {
+        private void undo(int c) {
             undone++;
             bench.table.doubt(c);
             number[c]++;
             status[c] = READY;
-            if (number[c] >= fallBound) {
-                fell = true;
-                return;
-            }
             lookRow = Math.min(lookRow, c + 1);
-            if (runRow > c) {
-                giveRun(w, c);
-            }
+            fell = number[c] >= fallBound;
         }
 
         int tell(int what) {

@@ -44,7 +44,11 @@ public final class ModelTest {
         askAll();
         for (int round = 0; round < ROUNDS; round++) {
             change();
-            tell();
+            if (random.nextInt(3) == 0) {
+                tellCrowd();
+            } else {
+                tell();
+            }
             for (int i = 0; i < RUNS; i++) {
                 runOnce();
             }
@@ -73,6 +77,26 @@ public final class ModelTest {
             for (int a = 0; a < acts; a++) {
                 tellAct(random.nextInt(12) == 0 ? random.nextInt(20) - 2 : c, spread);
             }
+        }
+    }
+
+    /** Calls that all read the same LEAVES and write one late: these wait and are undone most. */
+    private void tellCrowd() {
+        same("clear", x.clear(), m.clear());
+        int spread = 1 + random.nextInt(12);
+        boolean deep = random.nextBoolean();
+        if (deep) {
+            due.is(name + " bound 100", x.bound(100), m.bound(100));
+        }
+        for (int c = 0; c < 16; c++) {
+            same("call", x.call(), m.call());
+            int reads = 6 + random.nextInt(6);
+            for (int i = 0; i < reads; i++) {
+                int k = i % spread;
+                same("read", x.act(c, 1, i % 4, 0, k), m.act(c, 1, i % 4, 0, k));
+            }
+            int k = random.nextInt(spread);
+            same("write", x.act(c, 2, 1, 0, k), m.act(c, 2, 1, 0, k));
         }
     }
 

@@ -45,6 +45,7 @@ public final class PromisesTest {
         givenUpTurnByTurn();
         seenNoMoreTurnByTurn();
         lookThatComesTooLate();
+        lateLookAtAnotherRun();
         conflictIsOfTheFirstKept();
         due.close("PromisesTest");
     }
@@ -629,6 +630,27 @@ public final class PromisesTest {
         told("too late", x, turns, 0, 4, 1, 0, 6, 1, 2);
         of("too late", x, 1, 2, 2, 0, 1, 0, 0);
         conflicts("too late", x, 1, 0);
+    }
+
+    /*
+     * 1 w0 takes 0. 2 w1: V 1. 3 w1 takes 1. 4 w2: V 2. 5 - 7 w2 ends 2 (LEAVES 3 and 4 of NONE). 8 w2 takes the look
+     * at its run 0, V 3. 9 w1 ends 1, V 1. 10, 11 w1 looks at 1. 12, 13 w1 looks at 2: undone by 1 and run.
+     * 14, 15 w1 ends its run 1 and is to look at it. 16 w0 ends 0, V 0. 17 w2: too late for run 0, though run 1 is
+     * to be undone by now. 18 w1 looks at run 1: undone by 0, and by BOUND 2 all falls.
+     */
+    private static void lateLookAtAnotherRun() {
+        int[] order = {0, 1, 1, 2, 2, 2, 2, 2, 1, 1, 1, 1, 1, 1, 1, 0, 2, 1};
+        int seed = 403311261;
+        due.is("the seed has its turns", Turns.begins(3, seed, order), true);
+        ParallelUndo x = new ParallelUndo();
+        x.bound(2);
+        add(x, a(WRITE, 0, 0, 4));
+        add(x, a(WRITE, 0, 0, 3));
+        add(x, a(READ, 0, 1, 3), a(READ, 0, 1, 4));
+        due.is("late look at another run: turns", x.run(3, seed), 18);
+        told("late look at another run", x, 18, 1, 4, 2, 0, 10, 1, 3);
+        of("late look at another run", x, 2, 3, 2, 0, 2, 0, 0);
+        conflicts("late look at another run", x, 2, 1, 2, 0);
     }
 
     /*
