@@ -1,18 +1,5 @@
 /** Each promise by answers that were worked out by hand from the document's words. */
-public final class PromisesTest {
-    private static final int NONE = ParallelUndo.NONE;
-    private static final int SET = 0;
-    private static final int READ = 1;
-    private static final int WRITE = 2;
-    private static final int PLUS = 3;
-    private static final int MINUS = 4;
-    private static final int TIMES = 5;
-    private static final int PASS = 6;
-    private static final int EVENT = 7;
-    private static final int FAIL = 8;
-
-    private static final Due due = new Due();
-
+public final class PromisesTest extends Telling {
     public static void main(String[] args) {
         aNewObject();
         aNewObjectHasBoundEight();
@@ -50,51 +37,6 @@ public final class PromisesTest {
         due.close("PromisesTest");
     }
 
-    private static int add(ParallelUndo x, int[]... acts) {
-        int c = x.call();
-        for (int[] a : acts) {
-            if (x.act(c, a[0], a[1], a[2], a[3]) == NONE) {
-                throw new IllegalStateException("the test tells an act that is refused");
-            }
-        }
-        return c;
-    }
-
-    private static int[] a(int kind, int r, int s, int v) {
-        return new int[] {kind, r, s, v};
-    }
-
-    private static void told(String name, ParallelUndo x, int... want) {
-        for (int what = 0; what < want.length; what++) {
-            due.is(name + ": told(" + what + ")", x.told(what), want[what]);
-        }
-        due.is(name + ": told(-1)", x.told(-1), NONE);
-        due.is(name + ": told(8)", x.told(8), NONE);
-    }
-
-    private static void of(String name, ParallelUndo x, int c, int... want) {
-        for (int what = 0; what < want.length; what++) {
-            due.is(name + ": of(" + c + ", " + what + ")", x.of(c, what), want[what]);
-        }
-        due.is(name + ": of(" + c + ", -1)", x.of(c, -1), NONE);
-        due.is(name + ": of(" + c + ", 6)", x.of(c, 6), NONE);
-    }
-
-    private static void conflicts(String name, ParallelUndo x, int... pairs) {
-        int count = pairs.length / 2;
-        due.is(name + ": conflicts()", x.conflicts(), count);
-        for (int i = 0; i < count; i++) {
-            due.is(name + ": conflict(" + i + ", 0)", x.conflict(i, 0), pairs[2 * i]);
-            due.is(name + ": conflict(" + i + ", 1)", x.conflict(i, 1), pairs[2 * i + 1]);
-            due.is(name + ": conflict(" + i + ", 2)", x.conflict(i, 2), -2);
-            due.is(name + ": conflict(" + i + ", -1)", x.conflict(i, -1), -2);
-        }
-        due.is(name + ": conflict behind the last", x.conflict(count, 0), -2);
-        due.is(name + ": conflict(-1, 0)", x.conflict(-1, 0), -2);
-        due.is(name + ": conflict(MAX, 1)", x.conflict(Integer.MAX_VALUE, 1), -2);
-        due.is(name + ": conflict(MIN, 1)", x.conflict(Integer.MIN_VALUE, 1), -2);
-    }
-
     private static void aNewObject() {
         ParallelUndo x = new ParallelUndo();
         for (int k = -1; k <= 32; k++) {
@@ -110,38 +52,6 @@ public final class PromisesTest {
         due.is("new: call()", x.call(), 0);
         due.is("new: of(0, 0), a call but no run", x.of(0, 0), NONE);
         due.is("NONE", ParallelUndo.NONE, -1);
-    }
-
-    /*
-     * A block in which, with CROWD_SEED, some call is undone eight times and none more often, so that it tells
-     * BOUND 8 from 7 and 9. It was found by a search: a crowd of calls hardly ever comes that far.
-     */
-    private static final int CROWD_SEED = 1588837630;
-    private static final int[][][] CROWD = {
-        {{1, 2, 0, 12}, {1, 1, 3, 14}, {0, 3, 0, 0}, {2, 2, 2, 2}, {2, 1, 0, 23}, {2, 1, 1, 22}, {3, 3, 2, 0},
-            {2, 1, 2, 31}, {1, 2, 3, 1}, {2, 0, 3, 27}},
-        {{1, 1, 2, 1}, {2, 2, 2, 19}, {2, 0, 3, 4}, {2, 1, 0, 0}},
-        {{0, 2, 0, 22}, {1, 1, 3, 23}, {1, 3, 0, 4}, {2, 2, 2, 15}},
-        {{0, 3, 0, 25}, {3, 1, 3, 0}, {1, 0, 1, 12}, {1, 2, 0, 27}, {3, 3, 3, 0}, {1, 1, 3, 28}},
-        {{1, 3, 1, 28}, {3, 3, 3, 0}, {2, 2, 0, 21}},
-        {},
-        {},
-        {{1, 3, 1, 21}, {1, 2, 0, 21}, {1, 2, 2, 0}, {1, 1, 2, 12}, {2, 3, 1, 23}, {1, 2, 3, 8}, {0, 0, 0, 13},
-            {2, 2, 0, 31}},
-        {{0, 1, 0, 2}, {0, 0, 0, 27}, {2, 1, 3, 10}, {2, 0, 2, 12}, {1, 3, 0, 28}, {2, 0, 1, 27}},
-        {{1, 1, 2, 29}, {1, 0, 1, 15}, {1, 2, 3, 13}, {3, 1, 1, 0}, {2, 1, 0, 21}, {1, 0, 2, 21}},
-        {{1, 3, 1, 23}, {2, 3, 3, 20}, {1, 3, 0, 12}, {3, 2, 3, 0}, {1, 1, 3, 29}, {1, 3, 3, 16}},
-        {{3, 2, 1, 0}, {1, 0, 0, 19}, {1, 1, 1, 21}, {2, 2, 0, 29}, {1, 1, 2, 10}, {2, 3, 1, 22}},
-        {{1, 2, 2, 12}, {2, 0, 2, 0}},
-        {{1, 2, 2, 10}, {1, 0, 2, 22}, {1, 1, 0, 0}},
-    };
-
-    private static ParallelUndo crowd() {
-        ParallelUndo x = new ParallelUndo();
-        for (int[][] acts : CROWD) {
-            add(x, acts);
-        }
-        return x;
     }
 
     private static void aNewObjectHasBoundEight() {
@@ -187,11 +97,11 @@ public final class PromisesTest {
         due.is("act of call 1", x.act(1, SET, 0, 0, 0), 1);
         due.is("act of call 2", x.act(2, SET, 0, 0, 0), NONE);
         due.is("act of call -1", x.act(-1, SET, 0, 0, 0), NONE);
-        due.is("act of call MIN", x.act(Integer.MIN_VALUE, SET, 0, 0, 0), NONE);
-        due.is("act of call MAX", x.act(Integer.MAX_VALUE, SET, 0, 0, 0), NONE);
+        due.is("act of call MIN", x.act(MIN, SET, 0, 0, 0), NONE);
+        due.is("act of call MAX", x.act(MAX, SET, 0, 0, 0), NONE);
         due.is("kind -1", x.act(1, -1, 0, 0, 0), NONE);
         due.is("kind 9", x.act(1, 9, 0, 0, 0), NONE);
-        due.is("kind MAX", x.act(1, Integer.MAX_VALUE, 0, 0, 0), NONE);
+        due.is("kind MAX", x.act(1, MAX, 0, 0, 0), NONE);
         due.is("what is refused is not counted", x.act(1, SET, 0, 0, 0), 2);
     }
 
@@ -210,7 +120,6 @@ public final class PromisesTest {
                         x.act(0, kind, r, s, v), fine ? count : NONE);
                 }
             }
-            due.is("r MIN", new ParallelUndo().act(0, kind, Integer.MIN_VALUE, 0, v), NONE);
         }
     }
 
@@ -269,18 +178,18 @@ public final class PromisesTest {
         }
         due.is("leaf(-1)", x.leaf(-1, 1), false);
         due.is("leaf(32)", x.leaf(32, 1), false);
-        due.is("leaf(MAX)", x.leaf(Integer.MAX_VALUE, 1), false);
-        due.is("leaf(MIN)", x.leaf(Integer.MIN_VALUE, 1), false);
+        due.is("leaf(MAX)", x.leaf(MAX, 1), false);
+        due.is("leaf(MIN)", x.leaf(MIN, 1), false);
         for (int k = 0; k < 32; k++) {
             due.is("at(" + k + ")", x.at(k), 100L - k);
             due.is("inOrder(" + k + ")", x.inOrder(k), 100L - k);
         }
         due.is("at(-1)", x.at(-1), 0);
         due.is("at(32)", x.at(32), 0);
-        due.is("at(MIN)", x.at(Integer.MIN_VALUE), 0);
+        due.is("at(MIN)", x.at(MIN), 0);
         due.is("inOrder(-1)", x.inOrder(-1), 0);
         due.is("inOrder(32)", x.inOrder(32), 0);
-        due.is("inOrder(MAX)", x.inOrder(Integer.MAX_VALUE), 0);
+        due.is("inOrder(MAX)", x.inOrder(MAX), 0);
         x.leaf(5, Long.MIN_VALUE);
         due.is("the least long", x.at(5), Long.MIN_VALUE);
     }
@@ -288,7 +197,7 @@ public final class PromisesTest {
     private static void boundTakesItsNumbers() {
         ParallelUndo x = new ParallelUndo();
         int[] fine = {1, 2, 99, 100};
-        int[] wrong = {0, -1, 101, Integer.MAX_VALUE, Integer.MIN_VALUE};
+        int[] wrong = {0, -1, 101, MAX, MIN};
         for (int b : fine) {
             due.is("bound(" + b + ")", x.bound(b), true);
         }
@@ -303,7 +212,7 @@ public final class PromisesTest {
         x.run(2, 5);
         int turns = x.told(0);
         x.leaf(4, 77);
-        int[] wrong = {0, -1, 5, Integer.MAX_VALUE, Integer.MIN_VALUE};
+        int[] wrong = {0, -1, 5, MAX, MIN};
         x.call();
         for (int w : wrong) {
             due.is("run(" + w + ", 0)", x.run(w, 0), NONE);
@@ -492,8 +401,8 @@ public final class PromisesTest {
         due.is("event(2, -1)", x.event(2, -1), 0);
         due.is("event(3, 1)", x.event(3, 1), 0);
         due.is("event(-1, 0)", x.event(-1, 0), 0);
-        due.is("event(MAX, 0)", x.event(Integer.MAX_VALUE, 0), 0);
-        due.is("event(MIN, 0)", x.event(Integer.MIN_VALUE, 0), 0);
+        due.is("event(MAX, 0)", x.event(MAX, 0), 0);
+        due.is("event(MIN, 0)", x.event(MIN, 0), 0);
     }
 
     private static void groupsJoin() {
@@ -525,20 +434,6 @@ public final class PromisesTest {
         due.is("a failed call saw", x.of(2, 5), 1);
         due.is("groups with a failed call", x.told(6), 2);
     }
-
-    private static ParallelUndo writerAndReader() {
-        ParallelUndo x = new ParallelUndo();
-        add(x, a(SET, 0, 0, 5), a(WRITE, 0, 1, 3));
-        add(x, a(READ, 0, 1, 3), a(EVENT, 0, 0, 0));
-        return x;
-    }
-
-    /*
-     * 1 w0 takes call 0. 2 w1: V 1. 3 w1 takes call 1. 4 w1 reads LEAF 3 of NONE. 5 w1: call 1 ends.
-     * 6, 7 w0: call 0 ends, V 0. 8, 9 w0 looks at 0. 10, 11 w0 looks at 1: undone by 0, runs it.
-     * 12, 13 w0: call 1 ends, V is above it. 14 w0 looks at it, all is done.
-     */
-    private static final int[] UNDO_TURNS = {0, 1, 1, 1, 1, 0, 0, 0, 0, 0, 0, 0, 0, 0};
 
     private static void undoneTurnByTurn() {
         ParallelUndo x = writerAndReader();

@@ -3,11 +3,12 @@ final class Turns {
     private Turns() {
     }
 
-    static boolean begins(int workers, int seed, int[] order) {
-        int x = seed;
+    /** In longs, cut to 32 bits: another way than the class's, which lets ints go round. */
+    static boolean begins(int workers, int seed, int... order) {
+        long x = seed & 0xffffffffL;
         for (int w : order) {
-            x = x * 1103515245 + 12345;
-            if ((x >>> 16) % workers != w) {
+            x = (x * 1103515245L + 12345L) & 0xffffffffL;
+            if ((x >> 16) % workers != w) {
                 return false;
             }
         }
