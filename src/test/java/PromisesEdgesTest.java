@@ -39,6 +39,7 @@ public final class PromisesEdgesTest extends Telling {
         inOrderIsOfNow();
         eventOfNoneSuch();
         ofNoSuchCall();
+        ofCountsLeavesNotActs();
         conflictOfNoneSuch();
         conflictsAreOfTheFirst200();
         toldOfAnotherWhat();
@@ -450,6 +451,13 @@ public final class PromisesEdgesTest extends Telling {
         of("the last call", x, 1, 1, 2, 0, 1, 0, 0);
         x.run(1, 0);
         of("the call that is in it by now", x, 2, 1, 0, 0, 0, 0, 2);
+    }
+
+    /** 'how many LEAVES it kept .. wrote': a LEAF that it read or wrote more than once is one. */
+    private static void ofCountsLeavesNotActs() {
+        ParallelUndo x = alone(a(READ, 0, 3, 4), a(READ, 1, 3, 36), a(WRITE, 0, 3, 5), a(WRITE, 1, 3, 5),
+            a(WRITE, 1, 3, -27), a(READ, 0, 3, 5), a(WRITE, 0, 3, 4));
+        of("leaves, not acts", x, 0, 1, 7, 0, 1, 2, 0);
     }
 
     /** '-2: none such, another what' */
