@@ -1,9 +1,14 @@
 import com.sun.source.tree.AssertTree;
+import com.sun.source.tree.BinaryTree;
 import com.sun.source.tree.BlockTree;
 import com.sun.source.tree.ClassTree;
 import com.sun.source.tree.CompilationUnitTree;
+import com.sun.source.tree.DoWhileLoopTree;
+import com.sun.source.tree.ForLoopTree;
 import com.sun.source.tree.ImportTree;
+import com.sun.source.tree.InstanceOfTree;
 import com.sun.source.tree.LambdaExpressionTree;
+import com.sun.source.tree.LiteralTree;
 import com.sun.source.tree.MemberReferenceTree;
 import com.sun.source.tree.MethodInvocationTree;
 import com.sun.source.tree.MethodTree;
@@ -13,7 +18,9 @@ import com.sun.source.tree.SynchronizedTree;
 import com.sun.source.tree.ThrowTree;
 import com.sun.source.tree.Tree;
 import com.sun.source.tree.TryTree;
+import com.sun.source.tree.TypeCastTree;
 import com.sun.source.tree.VariableTree;
+import com.sun.source.tree.WhileLoopTree;
 import com.sun.source.util.JavacTask;
 import com.sun.source.util.TreePath;
 import com.sun.source.util.TreePathScanner;
@@ -191,6 +198,66 @@ public final class RulesTest {
             made(t);
             due.is("rule 3: one dimension, and a length that is a number: " + t, t.getDimensions().size(), 1);
             return super.visitNewArray(t, none);
+        }
+
+        /** Rule 7: the one divisor is how many workers there are, which the loop round it looks at. */
+        @Override
+        public Void visitBinary(BinaryTree t, Void none) {
+            if (t.getKind() == Tree.Kind.DIVIDE || t.getKind() == Tree.Kind.REMAINDER) {
+                TreePath path = getCurrentPath();
+                while (path != null && path.getLeaf().getKind() != Tree.Kind.WHILE_LOOP) {
+                    path = path.getParentPath();
+                }
+                String condition = path == null ? "" : ((WhileLoopTree) path.getLeaf()).getCondition().toString();
+                due.is("rule 7: a divisor that was looked at: " + t, condition.contains(t.getRightOperand() + " > 0"),
+                    true);
+            }
+            return super.visitBinary(t, none);
+        }
+
+        /** Rule 9: a counter that goes by one against a bound. */
+        @Override
+        public Void visitForLoop(ForLoopTree t, Void none) {
+            String counter = t.getInitializer().isEmpty() ? "" : ((VariableTree) t.getInitializer().get(0)).getName() + "";
+            String condition = t.getCondition() + "";
+            String update = t.getUpdate().toString();
+            boolean up = condition.matches("\\(?" + counter + " < .*") && update.equals(counter + "++;");
+            boolean down = condition.matches("\\(?" + counter + " >= 0\\)?") && update.equals(counter + "--;");
+            due.is("rule 9: for " + condition + ", " + update, up || down, true);
+            return super.visitForLoop(t, none);
+        }
+
+        @Override
+        public Void visitWhileLoop(WhileLoopTree t, Void none) {
+            due.is("rule 9: while " + t.getCondition(),
+                t.getCondition().toString().contains("turns < MOST_TURNS &&")
+                    && t.getStatement().toString().contains("turns++;"), true);
+            return super.visitWhileLoop(t, none);
+        }
+
+        @Override
+        public Void visitDoWhileLoop(DoWhileLoopTree t, Void none) {
+            never("rule 9, none is needed", t);
+            return null;
+        }
+
+        @Override
+        public Void visitTypeCast(TypeCastTree t, Void none) {
+            due.is("rule 6: a cast of numbers alone: " + t, t.getType().toString().equals("int"), true);
+            return super.visitTypeCast(t, none);
+        }
+
+        @Override
+        public Void visitInstanceOf(InstanceOfTree t, Void none) {
+            never("no object is told by its class", t);
+            return null;
+        }
+
+        @Override
+        public Void visitLiteral(LiteralTree t, Void none) {
+            due.is("rule 3: no text, no null, no floating number: " + t,
+                Set.of(Tree.Kind.INT_LITERAL, Tree.Kind.LONG_LITERAL, Tree.Kind.BOOLEAN_LITERAL).contains(t.getKind()), true);
+            return super.visitLiteral(t, none);
         }
 
         @Override
