@@ -33,6 +33,7 @@ public final class TermsEdgesTest extends Telling {
         callWhoseActsWereRefused();
         blockWithoutCalls();
         unwrittenLeafIsAsBefore();
+        eachKindInOrder();
         due.close("TermsEdgesTest");
     }
 
@@ -479,5 +480,42 @@ public final class TermsEdgesTest extends Telling {
             }
             x.run(4, 4);
         }
+    }
+
+    /*
+     * 'What a call writes it reads itself; others see it when it ends', with each kind of ACTS: by inOrder(), by a block
+     * that FELL (turns as UNDO_TURNS, up to the 11th, ahead of which 2, 3 and 4 have not begun) and by one worker.
+     * Call 2 reads 7, its own, makes 14 and -98 of it and passes over its last ACT alone; 3 FAILS by that -98; 4 does not
+     * see what 3 wrote.
+     */
+    private static void eachKindInOrder() {
+        long[][] want = {{3, 5}, {10, 7}, {11, 14}, {12, -98}, {13, 77}, {14, 77}, {15, 77}, {16, 0}};
+        ParallelUndo x = writerAndReader();
+        x.bound(1);
+        x.leaf(13, 77);
+        add(x, a(SET, 0, 0, 7), a(WRITE, 0, 3, 10), a(READ, 1, 3, 10), a(PLUS, 1, 0, 0), a(WRITE, 1, 3, 11),
+            a(MINUS, 0, 1, 0), a(TIMES, 1, 0, 0), a(WRITE, 1, 3, 12), a(PASS, 0, 1, 1), a(EVENT, 0, 0, 0),
+            a(PASS, 1, 0, 1), a(EVENT, 1, 0, 0));
+        add(x, a(READ, 0, 3, 12), a(WRITE, 0, 3, 13), a(EVENT, 0, 0, 0), a(FAIL, 0, 0, 0));
+        add(x, a(READ, 0, 3, 13), a(WRITE, 0, 3, 14), a(READ, 1, 3, 11), a(WRITE, 0, 1, 1));
+        for (long[] w : want) {
+            due.is("each kind: inOrder(" + w[0] + ")", x.inOrder((int) w[0]), w[1]);
+        }
+        due.is("each kind, fallen: turns", x.run(2, Turns.seedFor(2, UNDO_TURNS)), 11);
+        told("each kind, fallen", x, 11, 1, 2, 1, 0, 4 + 23, 2, 5);
+        eachKind("each kind, fallen", x, want);
+        due.is("each kind, alone: turns", x.run(1, 0), (2 + 2 + 11 + 4 + 4) + 5 * 3);
+        told("each kind, alone", x, 38, 0, 5, 0, 0, 23, 2, 5);
+        eachKind("each kind, alone", x, want);
+    }
+
+    private static void eachKind(String name, ParallelUndo x, long[][] want) {
+        for (long[] w : want) {
+            due.is(name + ": at(" + w[0] + ")", x.at((int) w[0]), w[1]);
+        }
+        events(name, x, 5, -7);
+        of(name, x, 2, 1, 11, 0, 0, 3, 2);
+        of(name, x, 3, 1, 4, 1, 1, 0, 2);
+        of(name, x, 4, 1, 4, 0, 2, 2, 2);
     }
 }
