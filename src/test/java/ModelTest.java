@@ -32,6 +32,12 @@ public final class ModelTest {
                 t.due.close("ModelTest");
             }
         }
+        ModelTest row = new ModelTest(OBJECTS);
+        row.liveInARow();
+        if (!row.due.allRight() || mostConflicts < 113) {
+            row.due.close("ModelTest");
+            System.exit(1);
+        }
         System.out.println("ModelTest: " + falls + " falls, " + waits + " runs given up, " + undone + " undone, "
             + failed + " failed, at most " + mostTurns + " turns and " + mostConflicts + " conflicts in a run");
         if (falls == 0 || waits == 0 || undone == 0 || failed == 0) {
@@ -53,6 +59,48 @@ public final class ModelTest {
                 runOnce();
             }
         }
+    }
+
+    /*
+     * Calls that take their turns one by one, by LEAF 31, while all behind them wait for the one whose turn it is and are
+     * woken when that ends: of the blocks that can be told in a few lines, the one with the most CONFLICTS found.
+     */
+    private void liveInARow() {
+        for (int c = 0; c < 16; c++) {
+            same("call", x.call(), m.call());
+            if (c == 0) {
+                for (int i = 0; i < 11; i++) {
+                    both(c, 0, 2, 0, 1);
+                }
+                both(c, 2, 2, 3, 31);
+                continue;
+            }
+            both(c, 1, 0, 3, 31);
+            both(c, 1, 1, 0, 0);
+            both(c, 0, 2, 0, c);
+            both(c, 2, 2, 3, c);
+            both(c, 6, 0, 2, 12);
+            both(c, 0, 2, 0, c + 1);
+            both(c, 2, 2, 3, 31);
+            for (int i = 0; i < 5; i++) {
+                both(c, 0, 1, 0, 1);
+            }
+        }
+        due.is(name + " bound 100", x.bound(100), m.bound(100));
+        for (int seed = 63400; seed < 63440; seed++) {
+            for (int k = 0; k < 32; k++) {
+                due.is(name + " leaf " + k, x.leaf(k, 0), m.leaf(k, 0));
+            }
+            same("run(4, " + seed + ")", x.run(4, seed), m.run(4, seed));
+            askAll();
+            mostTurns = Math.max(mostTurns, x.told(0));
+            mostConflicts = Math.max(mostConflicts, x.conflicts());
+        }
+    }
+
+    private void both(int c, int kind, int r, int s, long v) {
+        same("act(" + c + ", " + kind + ", " + r + ", " + s + ", " + v + ")",
+            x.act(c, kind, r, s, v), m.act(c, kind, r, s, v));
     }
 
     private void change() {
@@ -116,8 +164,7 @@ public final class ModelTest {
         } else if (random.nextInt(30) == 0) {
             v = number();
         }
-        same("act(" + c + ", " + kind + ", " + r + ", " + s + ", " + v + ")",
-            x.act(c, kind, r, s, v), m.act(c, kind, r, s, v));
+        both(c, kind, r, s, v);
     }
 
     private long number() {

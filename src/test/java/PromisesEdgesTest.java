@@ -483,7 +483,7 @@ public final class PromisesEdgesTest extends Telling {
     }
 
     /*
-     * 'CONFLICT i (of the first 200)'. No block was found that has so many (a long search came to some 130), so that
+     * 'CONFLICT i (of the first 200)'. No block was found that has so many (long searches came to some 140), so that
      * they are noted here by hand, in the object's own record, and asked for by the face.
      */
     private static void conflictsAreOfTheFirst200() {
